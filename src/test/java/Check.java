@@ -1,6 +1,7 @@
 /** Counts the answers that are not the ones that are due, and prints each of them. */
 final class Check {
     private static int wrong = 0;
+    private static String name = "";
 
     private Check() {
     }
@@ -15,9 +16,14 @@ final class Check {
         due(call, got ? 1 : 0, want ? 1 : 0);
     }
 
+    /** What stands ahead of all notes from now on. */
+    static void name(String test) {
+        name = test;
+    }
+
     static void note(String what) {
         wrong++;
-        System.out.println(what);
+        System.out.println(name + what);
     }
 
     static void noSuch(String call, Runnable run) {
@@ -33,7 +39,7 @@ final class Check {
     }
 
     /** The very class is due: a class below it would be one that the machine threw. */
-    private static void thrown(String call, Class<?> want, Runnable run) {
+    static void thrown(String call, Class<?> want, Runnable run) {
         String got = "nothing";
         try {
             run.run();

@@ -12,7 +12,7 @@ public final class ChipTest {
         Check.end("ChipTest");
     }
 
-    private static Amoebary ring(int vertices) {
+    static Amoebary ring(int vertices) {
         Amoebary x = new Amoebary();
         for (int v = 0; v < vertices; v++) {
             x.edges(v, (v + 1) % vertices, 1);
@@ -20,7 +20,7 @@ public final class ChipTest {
         return x;
     }
 
-    private static Amoebary path() {
+    static Amoebary path() {
         Amoebary x = new Amoebary();
         for (int v = 0; v < 4; v++) {
             x.edges(v, v + 1, 1);
@@ -28,7 +28,7 @@ public final class ChipTest {
         return x;
     }
 
-    private static Amoebary complete(int vertices, int edges) {
+    static Amoebary complete(int vertices, int edges) {
         Amoebary x = new Amoebary();
         for (int v = 0; v < vertices; v++) {
             for (int w = v + 1; w < vertices; w++) {
@@ -38,13 +38,13 @@ public final class ChipTest {
         return x;
     }
 
-    private static void put(Amoebary x, int... chips) {
+    static void put(Amoebary x, int... chips) {
         for (int v = 0; v < chips.length; v++) {
             x.chips(v, chips[v]);
         }
     }
 
-    private static void dueChips(String call, Amoebary x, int... chips) {
+    static void dueChips(String call, Amoebary x, int... chips) {
         for (int v = 0; v < chips.length; v++) {
             Check.due(call + " chips of " + v, x.chipsAt(v), chips[v]);
         }
@@ -108,7 +108,7 @@ public final class ChipTest {
         Check.noSuch("fire(-1)", () -> x.fire(-1));
     }
 
-    private static void dueReduced(Amoebary x, int at, int... chips) {
+    static void dueReduced(Amoebary x, int at, int... chips) {
         for (int v = 0; v < chips.length; v++) {
             Check.due("reduced(" + at + ", " + v + ")", x.reduced(at, v), chips[v]);
         }
@@ -242,7 +242,7 @@ public final class ChipTest {
         dueChips("what stays", four, 9, 0, 0, 0);
     }
 
-    private static void dueGraph(String call, Amoebary x, int... want) {
+    static void dueGraph(String call, Amoebary x, int... want) {
         for (int what = 0; what < 6; what++) {
             Check.due(call + " graph(" + what + ")", x.graph(what), want[what]);
         }

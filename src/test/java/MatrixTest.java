@@ -16,20 +16,20 @@ public final class MatrixTest {
         Check.end("MatrixTest");
     }
 
-    private static void put(Amoebary x, int matrix, int rows, int... entries) {
+    static void put(Amoebary x, int matrix, int rows, int... entries) {
         x.matrix(matrix, rows);
         for (int i = 0; i < rows * rows; i++) {
             x.entry(matrix, i / rows, i % rows, entries[i]);
         }
     }
 
-    private static void putVector(Amoebary x, int vector, int... parts) {
+    static void putVector(Amoebary x, int vector, int... parts) {
         for (int i = 0; i < parts.length; i++) {
             x.part(vector, i, parts[i]);
         }
     }
 
-    private static void dueMatrix(String call, Amoebary x, int matrix, int rows, int... entries) {
+    static void dueMatrix(String call, Amoebary x, int matrix, int rows, int... entries) {
         for (int i = 0; i < rows * rows; i++) {
             Check.due(call + " at " + i / rows + ", " + i % rows,
                     x.at(matrix, i / rows, i % rows), entries[i]);
@@ -37,7 +37,7 @@ public final class MatrixTest {
         Check.noSuch(call + " beyond", () -> x.at(matrix, rows, 0));
     }
 
-    private static void dueVector(String call, Amoebary x, int vector, int... parts) {
+    static void dueVector(String call, Amoebary x, int vector, int... parts) {
         for (int i = 0; i < parts.length; i++) {
             Check.due(call + " part " + i, x.partAt(vector, i), parts[i]);
         }
@@ -196,7 +196,7 @@ public final class MatrixTest {
         }
     }
 
-    private static void dueMean(String call, Amoebary x, int above, int below) {
+    static void dueMean(String call, Amoebary x, int above, int below) {
         Check.due(call + " above", x.mean(0, 0), above);
         Check.due(call + " below", x.mean(0, 1), below);
     }
@@ -227,7 +227,7 @@ public final class MatrixTest {
         Check.badArgument("mean(0, -1)", () -> x.mean(0, -1));
     }
 
-    private static void dueChoices(String call, Amoebary x, int determinant, int ways) {
+    static void dueChoices(String call, Amoebary x, int determinant, int ways) {
         Check.due(call + " determinant", x.determinant(0), determinant);
         Check.due(call + " ways", x.ways(0), ways);
     }

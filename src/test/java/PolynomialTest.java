@@ -15,19 +15,19 @@ public final class PolynomialTest {
         Check.end("PolynomialTest");
     }
 
-    private static Amoebary of(int... coefficients) {
+    static Amoebary of(int... coefficients) {
         Amoebary x = new Amoebary();
         put(x, 0, coefficients);
         return x;
     }
 
-    private static void put(Amoebary x, int poly, int... coefficients) {
+    static void put(Amoebary x, int poly, int... coefficients) {
         for (int i = 0; i < 9; i++) {
             x.coefficient(poly, i, i < coefficients.length ? coefficients[i] : INF);
         }
     }
 
-    private static void dueAll(String call, Amoebary x, int poly, int... coefficients) {
+    static void dueAll(String call, Amoebary x, int poly, int... coefficients) {
         for (int i = 0; i < 9; i++) {
             Check.due(call + " at " + i, x.coefficient(poly, i, INF),
                     i < coefficients.length ? coefficients[i] : INF);
@@ -104,7 +104,7 @@ public final class PolynomialTest {
         Check.noSuch("roots(4)", () -> new Amoebary().roots(4));
     }
 
-    private static void dueRoot(Amoebary x, int root, int above, int below, int counts) {
+    static void dueRoot(Amoebary x, int root, int above, int below, int counts) {
         Check.due("root " + root + " above", x.root(0, root, 0), above);
         Check.due("root " + root + " below", x.root(0, root, 1), below);
         Check.due("root " + root + " counts", x.root(0, root, 2), counts);
